@@ -513,7 +513,7 @@ public final class NecklaceSisters {
         }
 
         int runs() {
-            return jewels == 0 ? 0 : cutCount() + 1;
+            return jewels == 0 ? 0 : Integer.bitCount(cuts) + 1;
         }
 
         int runAt(int p) {

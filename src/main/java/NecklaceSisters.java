@@ -219,7 +219,7 @@ public final class NecklaceSisters {
     }
 
     public int divide() throws IllegalStateException {
-        int cuts = fewestCutsOf(necklace);
+        int cuts = fewestCuts();
         if (cuts == NONE) {
             throw new IllegalStateException("the string cannot be divided");
         }
@@ -254,7 +254,7 @@ public final class NecklaceSisters {
 
     public int fewest(int way) throws IllegalArgumentException {
         if (way == 0) {
-            return fewestCutsOf(necklace);
+            return fewestCuts();
         }
         if (way != 1) {
             throw new IllegalArgumentException("way is neither 0 nor 1");
@@ -267,7 +267,7 @@ public final class NecklaceSisters {
         if (k < 0) {
             throw new IllegalArgumentException("k is negative");
         }
-        return k < fewestCutsOf(necklace) ? division.foundCut(k) : NONE;
+        return k < fewestCuts() ? division.foundCut(k) : NONE;
     }
 
     public int leastGap(int m) throws IllegalArgumentException {
@@ -372,8 +372,8 @@ public final class NecklaceSisters {
         return necklace.jewels;
     }
 
-    private int fewestCutsOf(Necklace of) {
-        division.weigh(of, of.broken);
+    private int fewestCuts() {
+        division.weigh(necklace, necklace.broken);
         return division.fewestByCuts(MOST_CUTS);
     }
 
